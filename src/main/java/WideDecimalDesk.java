@@ -222,10 +222,7 @@ public final class WideDecimalDesk {
 
     private boolean divide(Register a, Register b) {
         right.load(b);
-        division.begin(right.whole);
-        left.load(a);
-        figures.takeFrom(left.whole);
-        division.bringDownAll(figures);
+        divideCoefficient(a);
         int scale = a.scale - b.scale;
         // A digit more is worth it only while the quotient is not yet exact and has room for it.
         while (scale < GREATEST_SCALE && (scale < 0 || division.isUnfinished())) {
@@ -240,16 +237,21 @@ public final class WideDecimalDesk {
     private boolean divideForRest(Register a, Register b) {
         right.load(b);
         right.lengthenTo(a.scale);
-        division.begin(right.whole);
-        left.load(a);
-        figures.takeFrom(left.whole);
-        division.bringDownAll(figures);
+        divideCoefficient(a);
         for (int scale = a.scale; scale < b.scale; scale++) {
             division.bringDown(0);
         }
         left.begin(Math.max(a.scale, b.scale), a.negative);
         left.whole.copy(division.rest);
         return left.place();
+    }
+
+    /** Divides the coefficient of a number by what stands in right. */
+    private void divideCoefficient(Register a) {
+        left.load(a);
+        figures.takeFrom(left.whole);
+        division.begin(right.whole);
+        division.bringDownAll(figures);
     }
 
     /** Loads two numbers into left and right, both with the greater scale. */
@@ -605,7 +607,6 @@ public final class WideDecimalDesk {
             if (goesAway(mode)) {
                 whole.addOne();
             }
-            cut = NOTHING;
         }
 
         /** Whether a rounding of this mode goes away from 0. */
@@ -662,7 +663,7 @@ public final class WideDecimalDesk {
     /** The decimal digits of a whole number, the lowest first, without zeros at its front: none of 0. */
     private static final class Digits {
         // A coefficient times 100 has no more than 31.
-        private static final int ROOM = 32;
+        private static final int ROOM = 31;
 
         private final byte[] row = new byte[ROOM];
         private int count;

@@ -29,6 +29,8 @@ public final class PromiseTests {
         parses();
         shows();
         formats();
+        formatsAnew();
+        callsAfterTooLarge();
         wrongFormats();
         outputs();
         reuses();
@@ -102,6 +104,8 @@ public final class PromiseTests {
         computes(SUM, "-" + GREATEST, "-0.49", "-" + GREATEST);
         computes(SUM, "79228162514264337593543950334", "0.5", "79228162514264337593543950334");
         computes(SUM, "79228162514264337593543950334", "0.50001", GREATEST);
+        computes(SUM, "79228162514264337589248983039", "0.6", "79228162514264337589248983040");
+        computes(SUM, "79228162495817593519834398719", "0.6", "79228162495817593519834398720");
         computes(SUM, "7922816251426433759354395033.5", "0.05", "7922816251426433759354395034");
         computes(SUM, "7922816251426433759354395033.5", "0.04", "7922816251426433759354395033.5");
         computes(SUM, GREATEST, "-0.0000000000000000000000000001", GREATEST);
@@ -173,6 +177,13 @@ public final class PromiseTests {
         computes(REMAINDER, "-7", "3", "-1");
         computes(REMAINDER, "7", "-3", "1");
         computes(REMAINDER, "-7", "-3", "-1");
+        computes(REMAINDER, "17", "7", "3");
+        computes(REMAINDER, "-17.5", "0.7", "0.0");
+        computes(REMAINDER, "-17", "0.07", "-0.06");
+        computes(REMAINDER, "1.23", "1.1", "0.13");
+        computes(REMAINDER, "-98765432109876543210.123", "-1234567.89", remainder("-98765432109876543210.123", "-1234567.89"));
+        computes(REMAINDER, GREATEST, "0.0000000000012345678901234567", remainder(GREATEST, "0.0000000000012345678901234567"));
+        computes(REMAINDER, "7.9228162514264337593543950335", "0.3", remainder("7.9228162514264337593543950335", "0.3"));
         computes(REMAINDER, "1", "0.3", "0.1");
         computes(REMAINDER, "0.30", "1", "0.30");
         computes(REMAINDER, "5.5", "0.250", "0.000");
@@ -337,6 +348,12 @@ public final class PromiseTests {
         put(desk, 0, "0.0000000000000000000000000000");
         put(desk, 1, "0");
         due("11 zeros", desk.compare(0, 1), 0);
+        // The first one's fraction of 10^-28 is just above 2^188, so that only its highest bits tell.
+        BigInteger first = BigInteger.ONE.shiftLeft(188).divide(BigInteger.TEN.pow(28)).add(BigInteger.ONE);
+        put(desk, 0, first.toString());
+        put(desk, 1, "7.9228162514264337593543950335");
+        due("11 highest bits", desk.compare(0, 1), 1);
+        due("11 highest bits, turned round", desk.compare(1, 0), -1);
         for (int register : NO_REGISTERS) {
             due("11 a", thrown(() -> desk.compare(register, 0)), "IllegalArgumentException");
             due("11 b", thrown(() -> desk.compare(0, register)), "IllegalArgumentException");
@@ -431,7 +448,7 @@ public final class PromiseTests {
             {"#,##0.00", "0", "0.00"}, {"##", "0.5", "1"}, {"##", "-0.4", ""}, {"#", "0", ""}, {"%#", "0", null},
             {"#%", "0", "%"}, {"#%", "0.004", "%"}, {"#%", "-0.005", "-1%"}, {"0", "-0.4", "0"}, {"0", "0.5", "1"},
             {"0", "1.5", "2"}, {"0", "2.5", "3"}, {"0", "-2.5", "-3"}, {"0", "2.49999", "2"}, {"0.", "2.5", "3"}, {"#.", "7", "7"},
-            {".0", "0.25", ".3"}, {".0", "12.25", "12.3"}, {".#", "0", ""}, {".#", "-0.04", ""}, {".#", "-0.05", "-.1"},
+            {".0", "0.25", ".3"}, {".0", "12.25", "12.3"}, {".0", "1234.5", "1234.5"}, {".#", "0", ""}, {".#", "-0.04", ""}, {".#", "-0.05", "-.1"},
             {"0.##", "1.50", "1.5"}, {"0.##", "1.00", "1"}, {"0.0#0#", "1", "1.000"}, {"0.0#0#", "1.00011", "1.0001"},
             {"0.#0", "1", "1.00"}, {"0.000", "1.5", "1.500"}, {"000", "7", "007"}, {"0##", "7", "007"}, {"#0#", "7", "07"},
             {"##0", "7", "7"}, {"#0#0", "7", "007"}, {"000", "12345", "12345"}, {"0,000", "7", "0,007"}, {"0,0", "1234567", "1,234,567"},
@@ -465,6 +482,38 @@ public final class PromiseTests {
             holds("16 register stays", desk, 1, row[1]);
             due("16 text stays", desk.format(1), row[2].length());
         }
+    }
+
+    private static void formatsAnew() {
+        WideDecimalDesk desk = new WideDecimalDesk();
+        put(desk, 0, "-1234.5");
+        String[][] rows = {
+            {"0,0.000%", "-123,450.000%"}, {".#", "-1234.5"}, {"000,000.00", "-001,234.50"}, {"#", "-1235"}, {"#.###", "-1234.5"},
+            {"#%", "-123450%"}, {"#.0#", "-1234.5"},
+        };
+        for (String[] row : rows) {
+            write(desk, row[0]);
+            desk.format(0);
+            due("16 '" + row[0] + "' after another pattern", output(desk), row[1]);
+        }
+        write(desk, "0,0.00%-");
+        due("16 a wrong one", thrown(() -> desk.format(0)), "IllegalStateException");
+        write(desk, ".#");
+        desk.format(0);
+        due("16 after a wrong one", output(desk), "-1234.5");
+    }
+
+    private static void callsAfterTooLarge() {
+        WideDecimalDesk desk = new WideDecimalDesk();
+        put(desk, 0, GREATEST);
+        put(desk, 1, "0.77");
+        put(desk, 2, "-1.5");
+        due("8 too large", desk.attempt(SUM, 3, 0, 1), false);
+        desk.round(3, 2, 1, 3);
+        holds("9 after too large", desk, 3, "-1.5");
+        due("8 too large", desk.attempt(SUM, 3, 0, 1), false);
+        desk.compute(SUM, 3, 2, 2);
+        holds("7 after too large", desk, 3, "-3.0");
     }
 
     private static void wrongFormats() {
@@ -589,6 +638,7 @@ public final class PromiseTests {
             .or(BigInteger.valueOf(desk.low(register) & 0xFFFFFFFFL));
         String held = new BigDecimal(coefficient, desk.scale(register)).toPlainString();
         due(what, (desk.negative(register) ? "-" : "") + held, number);
+        due(what + ", scale", desk.scale(register), new BigDecimal(number).scale());
     }
 
     private static String thrown(Call call) {
