@@ -2,15 +2,7 @@ import java.math.BigDecimal;
 import java.math.BigInteger;
 
 /** The document's promises by number: ordinary inputs, the edges that it names, and wrong inputs. */
-public final class PromiseTests {
-    private static final int SUM = 0, DIFFERENCE = 1, PRODUCT = 2, QUOTIENT = 3, REMAINDER = 4;
-    private static final String GREATEST = "79228162514264337593543950335";
-    private static final int[] NO_REGISTERS = {-1, 6, 7, 9, 32, Integer.MIN_VALUE, Integer.MAX_VALUE};
-    private static int passed = 0;
-    private static int failed = 0;
-
-    private interface Call { void run(); }
-
+public final class PromiseTests extends Bench {
     public static void main(String[] args) {
         newObject();
         set();
@@ -34,8 +26,7 @@ public final class PromiseTests {
         wrongFormats();
         outputs();
         reuses();
-        System.out.println(passed + " passed, " + failed + " failed");
-        if (failed != 0) System.exit(1);
+        finish();
     }
 
     private static void newObject() {
@@ -583,80 +574,9 @@ public final class PromiseTests {
         holds("18 text stays", desk, 1, "0");
     }
 
-    /** Checks compute and attempt; the result is null where there is none. */
-    private static void computes(int operation, String a, String b, String result) {
-        WideDecimalDesk desk = new WideDecimalDesk();
-        put(desk, 0, a);
-        put(desk, 1, b);
-        put(desk, 2, "-9.9");
-        String call = " operation " + operation + " on " + a + " and " + b;
-        String held = result == null ? "-9.9" : result;
-        due("7" + call, thrown(() -> desk.compute(operation, 2, 0, 1)), result == null ? "ArithmeticException" : "nothing");
-        holds("7" + call, desk, 2, held);
-        put(desk, 2, "-9.9");
-        due("8" + call, desk.attempt(operation, 2, 0, 1), result != null);
-        holds("8" + call, desk, 2, held);
-        holds("7" + call + ", a stays", desk, 0, a);
-        holds("7" + call + ", b stays", desk, 1, b);
-    }
-
     private static String remainder(String a, String b) {
         BigDecimal x = new BigDecimal(a);
         BigDecimal y = new BigDecimal(b);
         return x.remainder(y).setScale(Math.max(x.scale(), y.scale())).toPlainString();
-    }
-
-    private static void parses(String text, String number) {
-        WideDecimalDesk desk = new WideDecimalDesk();
-        put(desk, 0, "-9.9");
-        write(desk, text);
-        due("14 '" + text + "'", thrown(() -> desk.parse(0)), number == null ? "ArithmeticException" : "nothing");
-        holds("14 '" + text + "'", desk, 0, number == null ? "-9.9" : number);
-    }
-
-    private static void put(WideDecimalDesk desk, int register, String number) {
-        BigDecimal value = new BigDecimal(number);
-        BigInteger coefficient = value.unscaledValue().abs();
-        if (coefficient.bitLength() > 96) throw new IllegalStateException("the test itself is wrong: " + number);
-        desk.set(register, coefficient.longValue(), coefficient.shiftRight(64).intValue(), value.scale(), value.signum() < 0);
-    }
-
-    private static void write(WideDecimalDesk desk, String text) {
-        desk.clear();
-        for (char c : text.toCharArray()) due("12 '" + c + "'", desk.type(c), true);
-    }
-
-    private static String output(WideDecimalDesk desk) {
-        StringBuilder all = new StringBuilder();
-        for (int i = 0; desk.at(i) != -1; i++) all.append((char) desk.at(i));
-        return all.toString();
-    }
-
-    private static void holds(String what, WideDecimalDesk desk, int register, String number) {
-        BigInteger coefficient = BigInteger.valueOf(desk.high(register) & 0xFFFFFFFFL).shiftLeft(32)
-            .or(BigInteger.valueOf(desk.low(register) >>> 32)).shiftLeft(32)
-            .or(BigInteger.valueOf(desk.low(register) & 0xFFFFFFFFL));
-        String held = new BigDecimal(coefficient, desk.scale(register)).toPlainString();
-        due(what, (desk.negative(register) ? "-" : "") + held, number);
-        due(what + ", scale", desk.scale(register), new BigDecimal(number).scale());
-    }
-
-    private static String thrown(Call call) {
-        try {
-            call.run();
-            return "nothing";
-        } catch (RuntimeException e) {
-            return e.getClass().getSimpleName();
-        }
-    }
-
-    private static void due(String what, Object got, Object want) {
-        boolean same = want instanceof Character c ? got.equals((int) c) || got.equals(want) : got.equals(want);
-        if (same) {
-            passed++;
-        } else {
-            failed++;
-            System.out.println(what + ": answered " + got + ", due is " + want);
-        }
     }
 }
