@@ -21,6 +21,8 @@ abstract class Bench {
 
     interface Question { Object askedOf(WideDecimalDesk desk); }
 
+    private interface Probe { String of(WideDecimalDesk desk); }
+
     /** Begins the test of a sentence of the document: what differs from here on is told with its words. */
     static void sentence(String words) {
         endOfSentence();
@@ -91,11 +93,13 @@ abstract class Bench {
         return all.toString();
     }
 
-    /** What a register holds, with every digit that its scale asks for; a negative 0 would show as such. */
+    /** What a register holds, with every digit that its scale asks for; a negative 0 or a wrong scale would show. */
     static String number(WideDecimalDesk desk, int register) {
         BigInteger coefficient = BigInteger.valueOf(desk.high(register) & 0xFFFFFFFFL).shiftLeft(64);
         coefficient = coefficient.or(new BigInteger(Long.toUnsignedString(desk.low(register))));
-        String digits = new BigDecimal(coefficient, desk.scale(register)).toPlainString();
+        int scale = desk.scale(register);
+        String digits = new BigDecimal(coefficient, scale).toPlainString();
+        if (scale < 0 || scale > 28) digits += " with scale " + scale;
         return desk.negative(register) ? "-" + digits : digits;
     }
 
@@ -160,26 +164,35 @@ abstract class Bench {
 
     /** The question has that answer, and a desk that was asked it goes on like a twin that was not. */
     static void changesNothing(String what, Object answer, Step before, Question question) {
-        WideDecimalDesk asked = new WideDecimalDesk();
-        WideDecimalDesk twin = new WideDecimalDesk();
-        before.on(asked);
-        before.on(twin);
-        due(what, question.askedOf(asked), answer);
-        due(what + ", nothing changed", everythingOf(asked), everythingOf(twin));
+        // No one probe sees all: reading the text might spoil what filling it would show, and the other way round.
+        for (Probe probe : new Probe[] {Bench::textAsItIsRead, Bench::roomInTheText}) {
+            WideDecimalDesk asked = new WideDecimalDesk();
+            WideDecimalDesk twin = new WideDecimalDesk();
+            before.on(asked);
+            before.on(twin);
+            due(what, question.askedOf(asked), answer);
+            due(what + ", nothing changed", numbersAndOutput(asked), numbersAndOutput(twin));
+            due(what + ", nothing changed", probe.of(asked), probe.of(twin));
+        }
     }
 
-    /** All that calls can tell of a desk; it is of no other use afterwards. */
-    private static String everythingOf(WideDecimalDesk desk) {
+    private static String numbersAndOutput(WideDecimalDesk desk) {
         StringBuilder all = new StringBuilder();
         for (int i = 0; i < 6; i++) all.append(number(desk, i)).append(", ");
-        all.append("output '").append(output(desk)).append("', text");
-        // The text shows only in what is read from it and written by it, and in the room that it leaves.
+        return all.append("output '").append(output(desk)).append("'").toString();
+    }
+
+    private static String textAsItIsRead(WideDecimalDesk desk) {
+        StringBuilder all = new StringBuilder("text");
         for (int i : new int[] {0, 1}) {
             all.append(" by format ").append(thrown(() -> desk.format(i))).append(" '").append(output(desk)).append("'");
         }
-        all.append(" by parse ").append(thrown(() -> desk.parse(0))).append(' ').append(number(desk, 0));
+        return all.append(" by parse ").append(thrown(() -> desk.parse(0))).append(' ').append(number(desk, 0)).toString();
+    }
+
+    private static String roomInTheText(WideDecimalDesk desk) {
         int room = 0;
         while (room < 100 && desk.type('7')) room++;
-        return all.append(", room ").append(room).toString();
+        return "room in the text for " + room;
     }
 }

@@ -12,6 +12,7 @@ public final class CallBoundaryTests extends Bench {
 
     public static void main(String[] args) {
         newObject();
+        textAndOutput();
         setWithoutSign();
         setZero();
         setRefused();
@@ -71,6 +72,18 @@ public final class CallBoundaryTests extends Bench {
         due("text is no pattern", thrown(() -> desk.format(0)), STATE);
         for (int i = 0; i < 40; i++) due("room", desk.type('0'), true);
         due("no more room", desk.type('0'), false);
+    }
+
+    private static void textAndOutput() {
+        sentence("The TEXT is a list of at most 40 characters with codes 32 .. 126, empty at first; "
+            + "the OUTPUT is a list of characters, empty at first");
+        due("output at first", new WideDecimalDesk().at(0), -1);
+        due("reuse of the output at first", new WideDecimalDesk().reuse(), true);
+        for (int first = 32; first + 39 <= 126; first++) {
+            WideDecimalDesk desk = new WideDecimalDesk();
+            for (int i = 0; i < 40; i++) due("code " + (first + i), desk.type((char) (first + i)), true);
+            due("the 41st", desk.type((char) first), false);
+        }
     }
 
     private static void setWithoutSign() {
@@ -385,6 +398,9 @@ public final class CallBoundaryTests extends Bench {
         for (int i = 0; i < order.length; i++) {
             for (int j = 0; j < order.length; j++) compares(order[i], order[j], Integer.compare(i, j));
         }
+        // With the other's scale, the first of these is just above 2^188: its highest bits alone tell.
+        compares("39231885846166754773973683896", scaled(GREATEST, 28), 1);
+        compares(scaled(GREATEST, 28), "39231885846166754773973683896", -1);
         changesNothing("compare", -1, inUse("7"), desk -> desk.compare(0, 5));
     }
 
@@ -393,6 +409,8 @@ public final class CallBoundaryTests extends Bench {
         put(desk, 0, a);
         put(desk, 5, b);
         due("compare " + a + " and " + b, desk.compare(0, 5), answer);
+        holds("a stays", desk, 0, a);
+        holds("b stays", desk, 5, b);
     }
 
     private static void compareRefused() {

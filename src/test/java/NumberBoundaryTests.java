@@ -19,6 +19,7 @@ public final class NumberBoundaryTests extends Bench {
         placedAtNoMoreThanItsPlace();
         placedAtTheGreatestScale();
         placedBelowTheBound();
+        powersOfTwo();
         placedToTheNearest();
         placedHalfToTheEvenOne();
         placedNegative();
@@ -207,6 +208,20 @@ public final class NumberBoundaryTests extends Bench {
         for (int s = 1; s <= 28; s++) {
             computes(PRODUCT, "281474976710656", scaled("281474976710656", s), scaled("7922816251426433759354395034", s - 1));
         }
+        // Numbers some of whose bits are all 1 are not yet the greatest.
+        parses("79228162514264337589248983039.6", "79228162514264337589248983040");
+        parses("79228162495817593519834398719.6", "79228162495817593519834398720");
+        parses("18446744073709551615.99999999999999999", "18446744073709551616.000000000");
+    }
+
+    private static void powersOfTwo() {
+        sentence("is less than 2^96. .. If there is no such scale, x is TOO LARGE");
+        for (int i = 0; i < 96; i++) {
+            for (int j = 0; j < 96; j++) {
+                String result = i + j < 96 ? BigInteger.ONE.shiftLeft(i + j).toString() : null;
+                computes(PRODUCT, BigInteger.ONE.shiftLeft(i).toString(), BigInteger.ONE.shiftLeft(j).toString(), result);
+            }
+        }
     }
 
     private static void placedToTheNearest() {
@@ -303,6 +318,9 @@ public final class NumberBoundaryTests extends Bench {
                 computes(PRODUCT, scaled("0", k), scaled("3", l), scaled("0", Math.min(k + l, 28)));
             }
         }
+        computes(PRODUCT, scaled(GREATEST, 28), scaled(GREATEST, 28), "62.771017353866807638357894230");
+        computes(PRODUCT, "-" + scaled(GREATEST, 28), GREATEST, null);
+        computes(PRODUCT, scaled(GREATEST, 28), "10000000000", scaled(GREATEST, 18));
     }
 
     private static void quotientByZero() {

@@ -24,6 +24,7 @@ public final class PatternBoundaryTests extends Bench {
         minusSign();
         pointOnlyBeforeDigits();
         percentWritten();
+        onePatternAfterAnother();
         longestOutput();
         finish();
     }
@@ -287,6 +288,20 @@ public final class PatternBoundaryTests extends Bench {
         due("17 none there", desk.at(0), -1);
         due("18 the empty output is reused", desk.reuse(), true);
         due("18 the text is empty", thrown(() -> desk.format(1)), "IllegalStateException");
+    }
+
+    private static void onePatternAfterAnother() {
+        sentence("A number a is written by it so (whatever pattern was the one before)");
+        WideDecimalDesk desk = new WideDecimalDesk();
+        put(desk, 0, "-1234.5");
+        String[] patterns = {"0,000000.000%", ".#", "0,0.00", ".", "#", "0,0.00%%", ".##", "#%", "000000", "#.#", "#,#.0", ",.#"};
+        String[] outputs = {"-0,123,450.000%", "-1234.5", "-1,234.50", null, "-1235", null, "-1234.5", "-123450%", "-001235", "-1234.5",
+            "-1,234.5", "-1234.5"};
+        for (int i = 0; i < patterns.length; i++) {
+            write(desk, patterns[i]);
+            due("16 '" + patterns[i] + "'", thrown(() -> desk.format(0)), outputs[i] == null ? "IllegalStateException" : "nothing");
+            if (outputs[i] != null) due("16 '" + patterns[i] + "'", output(desk), outputs[i]);
+        }
     }
 
     private static void longestOutput() {
