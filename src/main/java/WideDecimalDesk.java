@@ -551,6 +551,7 @@ public final class WideDecimalDesk {
         boolean place() {
             while (scale > 0 && (scale > GREATEST_SCALE || !fits())) {
                 cutDigit();
+                scale--;
             }
             if (!fits()) {
                 return false;
@@ -562,6 +563,7 @@ public final class WideDecimalDesk {
         void shortenTo(int newScale, int mode) {
             while (scale > newScale) {
                 cutDigit();
+                scale--;
             }
             settle(mode);
         }
@@ -586,6 +588,7 @@ public final class WideDecimalDesk {
             }
         }
 
+        /** Leaves the scale to the loops that call it, so that each shows its own end. */
         private void cutDigit() {
             int digit = whole.dropDigit();
             if (digit > 5 || digit == 5 && cut != NOTHING) {
@@ -595,7 +598,6 @@ public final class WideDecimalDesk {
             } else if (digit > 0 || cut != NOTHING) {
                 cut = BELOW_HALF;
             }
-            scale--;
         }
 
         /** Whether the whole number, once it is rounded to the nearest, is a coefficient. */
